@@ -95,7 +95,8 @@ public final class PromisesTest {
         for (int i = 1; i <= 20; i++) {
             full.add("act 0 0 0 0 0 = " + i + ";");
         }
-        run("8 act, full", "program = 0", String.join("", full), "act 0 0 0 0 0 = -2; act 0 0 0 0 1 = -1; act 0 13 0 0 0 = -1; act 1 0 0 0 0 = -1; count 10 = 20");
+        run("8 act, full", "program = 0", String.join("", full), "act 0 0 0 0 0 = -2; act 0 0 0 0 1 = -1; act 0 13 0 0 0 = -1; act 1 0 0 0 0 = -1; count 10 = 20",
+            "same 0 0 = 1; run 0 = 20; told 0 19 0 = 0; told 0 20 0 = -1; set 0 19 0 0 = 0; least 0 6 -1 0 1 = 9999999; mend 0 0 0 1 = 9999999");
         run("9 set", "program = 0; act 0 4 3 0 1 = 1; act 0 0 0 0 0 = 2; set 0 0 5 100 = 0; told 0 0 2 = 5; told 0 0 3 = 100; told 0 0 1 = 3; told 0 0 0 = 4",
             "set 0 0 6 1 = -1; set 0 0 0 0 = -1; set 0 0 0 101 = -1; set 0 1 0 1 = -1; set 0 1 0 0 = 0; set 0 2 0 0 = -1; set 0 -1 0 0 = -1",
             "set 1 0 0 1 = -1; set -1 0 0 1 = -1; told 0 0 2 = 5; told 0 0 3 = 100");
@@ -137,6 +138,8 @@ public final class PromisesTest {
 
     private static void acts() {
         run("II sum", "program = 0; act 0 0 4 0 0 = 1; line 5 = 1; line -8 = 2; line 1 = 3; run 0 = 1; slot 4 0 = -2; slot 4 1 = 1; slot 0 0 = 0; got 0 = 0");
+        run("II twelve lines", "rate 0 1 1 = 0; program = 0; act 0 0 0 0 0 = 1; act 0 2 1 0 0 = 2; act 0 1 2 0 0 = 3; line 1000000 = 1; line 1000000 = 2; line 1000000 = 3; line 1000000 = 4; line 1000000 = 5; line 1000000 = 6; line 1000000 = 7",
+            "line 1000000 = 8; line 1000000 = 9; line 1000000 = 10; line 1000000 = 11; line 999999 = 12; rate 0 10000 1 = 0; run 0 = 3; slot 0 0 = 11999999; slot 1 0 = 119999990000; slot 2 0 = 119999990000; got 10 = 10000000000; got 11 = 9999990000");
         run("II tax rounds each line", "rate 3 1 2 = 0; program = 0; act 0 1 2 3 0 = 1; line 5 = 1; line 5 = 2; line -5 = 3; run 0 = 1; got 0 = 3; got 1 = 3; got 2 = -3",
             "slot 2 0 = 3; set 0 0 3 1 = 0; run 0 = 1; slot 2 0 = 2; set 0 0 3 2 = 0; run 0 = 1; slot 2 0 = 2; set 0 0 3 3 = 0; run 0 = 1; slot 2 0 = 3",
             "set 0 0 3 4 = 0; run 0 = 1; got 2 = -3; slot 2 0 = 1; set 0 0 3 5 = 0; run 0 = 1; got 2 = -2; slot 2 0 = 4");
@@ -209,6 +212,7 @@ public final class PromisesTest {
             "bare = 1; line 1 = 1; run 0 = 2; part 0 = 0; part 1 = 1; part 2 = 0; bare = 1; line 2 = 1; run 0 = 2; part 0 = 1; part 1 = 1; part 2 = 0");
         run("III rule 1, the first with a weight", head, "weight 0 0 = 1; weight 0 3 = 2; weight 0 5 = 3; weight 0 2 = 4; act 0 6 0 1 0 = 2; line 7 = 1; run 0 = 2; part 0 = 0; part 1 = 3; part 2 = 3; part 3 = 1",
             "bare = 1; line -1 = 1; run 0 = 2; part 0 = 0; part 1 = 0; part 2 = 0; part 3 = -1");
+        run("III rule 1, from the first on", head, "weight 0 1 = 1; weight 0 1 = 2; weight 0 1 = 3; act 0 6 0 1 0 = 2; line 5 = 1; run 0 = 2; part 0 = 2; part 1 = 2; part 2 = 1; bare = 1; line -5 = 1; run 0 = 2; part 0 = -1; part 1 = -2; part 2 = -2");
         run("III rule 2, the last takes what is left", head, "weight 0 1 = 1; weight 0 1 = 2; weight 0 0 = 3; act 0 6 0 2 0 = 2; line 5 = 1; run 0 = 2; part 0 = 3; part 1 = 3; part 2 = -1",
             "bare = 1; line -5 = 1; run 0 = 2; part 0 = -3; part 1 = -3; part 2 = 1");
         run("III rule 3, the first takes what is left", head, "weight 0 0 = 1; weight 0 1 = 2; weight 0 1 = 3; act 0 6 0 3 0 = 2; line 5 = 1; run 0 = 2; part 0 = -1; part 1 = 3; part 2 = 3");
@@ -227,19 +231,51 @@ public final class PromisesTest {
             "least 0 2 2 0 1 = -1; least 0 2 -1 0 1 = -1; rate 0 1 2 = 0; act 1 3 1 0 0 = 4; act 1 10 1 1 0 = 5; act 1 10 1 1 1 = 6; least 0 2 1 0 20 = 1; least 1 2 0 2 6 = 3; least 1 2 1 0 20 = 9999999");
         run("IV share", sum, "least 0 3 -1 0 9 = 9999999; weight 0 1 = 3; weight 0 1 = 4; weight 0 1 = 5; weight 0 1 = 6; weight 0 1 = 7; weight 0 1 = 8; act 0 6 0 2 0 = 2; least 0 3 -1 0 1 = 9999999; least 0 3 -1 0 20 = 2",
             "set 0 1 0 0 = 0; least 0 3 -1 -500 500 = 9999999; set 0 1 3 0 = 0; least 0 3 -1 -20 20 = -20; rate 0 1 2 = 0; act 0 3 0 0 0 = 3; act 0 10 0 0 0 = 4; least 0 3 -1 0 20 = 2; least 0 3 -1 5 20 = 6");
-        run("IV share, of the last split", sum, "weight 0 0 = 3; act 0 6 0 2 0 = 2; least 0 3 -1 0 9 = 1; set 0 1 2 1 = 0; least 0 3 -1 0 9 = 9999999; act 0 6 0 2 0 = 3; least 0 3 -1 0 9 = 1; act 0 6 0 0 1 = 4; least 0 3 -1 0 9 = 9999999");
+        run("IV share, of the last split", sum, "weight 0 0 = 3; act 0 6 0 2 0 = 2; least 0 3 -1 0 9 = 1; set 0 1 2 1 = 0; least 0 3 -1 0 9 = 9999999; weight 2 -1 = 0; weight 2 1 = 1; weight 2 1 = 2; weight 2 2 = 3; set 0 1 2 2 = 0; least 0 3 -1 2 2 = 2; least 0 3 -1 -2 -2 = -2; set 0 1 2 1 = 0; act 0 6 0 2 0 = 3; least 0 3 -1 0 9 = 1; act 0 6 0 0 1 = 4; least 0 3 -1 0 9 = 9999999");
         run("IV fail", sum, "least 0 4 -1 -9 9 = 9999999; rate 0 10000 1 = 0; act 0 3 0 0 0 = 2; act 0 3 0 0 0 = 3; least 0 4 -1 10990 11000 = 10996; least 0 4 -1 -11000 -10000 = -11000; least 0 4 -1 -10995 -10995 = 9999999");
         run("IV leak", sum, "act 0 11 1 0 0 = 2; act 0 10 0 0 0 = 3; least 0 5 -1 0 9 = 9999999; rate 0 1 2 = 0; act 0 10 1 0 0 = 4; least 0 5 -1 3 9 = 3; act 0 3 2 0 0 = 5; act 0 10 2 0 0 = 6; least 0 5 -1 3 9 = 4; count 2 = 0");
         // 1 / 10 added ten times is 0.9999999999999999 as doubles; 7 / 100 of 150 is 10.500000000000002.
         run("IV float", sum, "rate 0 7 100 = 0; act 0 3 1 0 0 = 2; act 0 4 1 2 1 = 3; act 0 10 1 0 0 = 4; least 0 6 -1 0 99 = 9999999; set 0 2 1 1 = 0; least 0 6 -1 0 300 = 150; set 0 2 3 1 = 0; least 0 6 -1 0 300 = 100");
         run("IV float by a cast", sum, "rate 0 1 10 = 0; act 0 3 1 0 0 = 2; act 0 5 2 1 0 = 3; act 0 5 2 1 0 = 4; act 0 5 2 1 0 = 5; act 0 5 2 1 0 = 6; act 0 5 2 1 0 = 7; act 0 5 2 1 0 = 8; act 0 5 2 1 0 = 9",
             "act 0 5 2 1 0 = 10; act 0 5 2 1 0 = 11; act 0 5 2 1 0 = 12; act 0 10 2 0 0 = 13; least 0 6 -1 0 9 = 1; least 0 6 -1 5 5 = 9999999");
+        doubles();
         run("19 least", "least 0 0 -1 0 0 = -1; program = 0; least 0 0 -1 0 0 = 9999999; least 0 -1 -1 0 0 = -1; least 0 7 -1 0 0 = -1; least 1 0 -1 0 0 = -1; least -1 0 -1 0 0 = -1; least 0 0 0 0 0 = -1; least 0 0 -2 0 0 = -1",
             "least 0 2 0 0 0 = 9999999; least 0 0 -1 1 0 = -1; least 0 0 -1 0 2000 = 9999999; least 0 0 -1 0 2001 = -1; least 0 0 -1 1000000 1000000 = 9999999; least 0 0 -1 1000000 1000001 = -1; least 0 0 -1 -1000000 -999000 = 9999999",
             "least 0 0 -1 -1000001 -999000 = -1; least 0 0 -1 -2147483648 2147483647 = -1; least 0 0 -1 2147483647 -2147483648 = -1");
         run("19 nothing else is changed", "rate 0 1 3 = 0; program = 0; act 0 1 0 0 0 = 1; act 0 3 1 0 0 = 2; act 0 8 1 0 0 = 3; act 0 6 0 0 0 = 4; act 0 11 2 0 0 = 5; act 0 10 2 1 0 = 6; line 8 = 1; line 11 = 2; run 0 = 6; least 0 0 -1 100 200 = 100",
             "least 0 6 -1 100 200 = 9999999; order 0 = 9999999; mend 0 0 100 200 = -3; count 0 = 2; count 2 = 1; account 1 = 7; carried 0 0 = 1; carried 0 1 = 3; got 0 = 3; got 1 = 4; part 0 = 4; part 1 = 3; slot 0 0 = 7; slot 1 0 = 2; slot 2 2 = 1");
         run("19 from accounts and carried 0", "rate 0 1 2 = 0; program = 0; act 0 0 0 0 0 = 1; act 0 3 0 0 0 = 2; act 0 8 0 0 0 = 3; act 0 10 0 0 0 = 4; line 7 = 1; run 0 = 4; account 0 = 3; carried 0 0 = 1; least 0 0 -1 0 9 = 2; least 0 0 -1 1 1 = 9999999");
+    }
+
+    /** 49 times 1 / 49 of 1 is 1 - 2^-53 as doubles: a gap that is 0 exactly, and can be made as great as one likes. */
+    private static void doubles() {
+        String gap = "rate 0 1 49 = 0; rate 1 49 1 = 0; rate 2 8192 1 = 0; rate 3 4 1 = 0; program = 0; act 0 0 1 0 0 = 1; act 0 3 1 1 0 = 2; act 0 3 1 1 1 = 3; act 0 0 0 0 0 = 4;";
+        String six = "act 0 3 1 1 2 = 6; act 0 3 1 1 2 = 7; act 0 3 1 1 2 = 8; act 0 3 1 1 2 = 9; act 0 3 1 1 2 = 10; act 0 3 1 1 2 = 11;";
+        String split = "act 0 3 1 1 2 = 12; act 0 3 1 1 3 = 13; act 0 6 1 0 0 = 14; act 0 7 2 0 0 = 15; act 0 10 2 0 0 = 16;";
+        run("IV float splits -2^40", gap, "act 0 5 1 0 1 = 5;", six, split, "least 0 6 -1 1 1 = 1; rate 3 5 1 = 0; least 0 6 -1 1 1 = 9999999; least 0 6 -1 0 0 = 9999999");
+        run("IV float splits 2^40", gap, "act 0 5 0 1 1 = 5;", six.replace(" 1 1 2 ", " 0 0 2 "), split.replace("3 1 1", "3 0 0").replace("6 1", "6 0"),
+            "least 0 6 -1 1 1 = 1; rate 3 5 1 = 0; least 0 6 -1 1 1 = 9999999");
+        String[] ends = {"act 0 5 1 0 1 = 5;", "act 0 5 0 1 1 = 5;"};
+        for (String end : ends) {
+            String s = end == ends[0] ? "1" : "0";
+            // The slot goes to 2^53 and on to 2^66, but is kept at 2^50 both times.
+            run("IV float is kept within 2^50", gap, end, six.replace(" 1 1 2 ", " " + s + " " + s + " 2 "), "act 0 3 S S 2 = 12; act 0 3 S S 2 = 13; act 0 5 4 S 0 = 14; act 0 3 S S 2 = 15;".replace("S", s),
+                "act 0 5 4 S 1 = 16; act 0 10 4 0 0 = 17; least 0 6 -1 1 1 = 9999999; act 0 10 S 0 0 = 18; least 0 6 -1 1 1 = 1".replace("S", s));
+            // 2^38 grows by 8193 a day; a gain beyond every long ends at 2^50, too.
+            run("IV float is kept within 2^50 by days", gap, end, six.replace(" 1 1 2 ", " " + s + " " + s + " 2 "), "act 0 3 S S 2 = 12; act 0 12 S 2 30 = 13; rate 4 10000 1 = 0; act 0 12 S 4 3 = 14; act 0 5 4 S 0 = 15; act 0 12 S 2 1 = 16;".replace("S", s),
+                "act 0 5 4 S 1 = 17; act 0 10 4 0 0 = 18; least 0 6 -1 1 1 = 9999999; act 0 10 S 0 0 = 19; least 0 6 -1 1 1 = 1".replace("S", s));
+        }
+        for (String end : ends) {
+            String s = end == ends[0] ? "1" : "0";
+            // Beyond 2^50 and beyond every long the slot keeps its side of 0: a cap on the other side leaves it.
+            String cap = "act 0 9 S T 0 = 16; act 0 10 S 0 0 = 17; least 0 6 -1 1 1 = 1; set 0 15 U 0 = 0; least 0 6 -1 1 1 = 9999999"
+                .replace("S", s).replace("T", s.equals("1") ? "0" : "1").replace("U", s);
+            String grown = six.replace(" 1 1 2 ", " " + s + " " + s + " 2 ") + "act 0 3 S S 2 = 12; act 0 3 S S 2 = 13;".replace("S", s);
+            run("IV float keeps its side", gap, end, grown, "act 0 3 S S 2 = 14; act 0 3 S S 2 = 15;".replace("S", s), cap);
+            run("IV float keeps its side by days", gap, end, grown, "rate 4 10000 1 = 0; act 0 3 S S 2 = 14; act 0 12 S 4 1 = 15;".replace("S", s), cap);
+        }
+        run("IV float begins with 0", "rate 0 1 1 = 0; program = 0; act 0 0 1 0 0 = 1; act 0 5 0 1 0 = 2; act 0 10 0 0 0 = 3; act 0 7 3 0 0 = 4; act 0 10 3 1 0 = 5; act 0 6 1 0 0 = 6; act 0 8 1 0 0 = 7; least 0 6 -1 -9 9 = 9999999");
+        run("IV float carries", "rate 0 1 10 = 0; program = 0; act 0 0 1 0 0 = 1; act 0 3 1 1 0 = 2; act 0 5 2 1 0 = 3; act 0 8 2 0 0 = 4; act 0 5 3 1 0 = 5; act 0 8 3 0 0 = 6; act 0 10 3 1 0 = 7; least 0 6 -1 -30 30 = 9999999; told 0 6 2 = 1");
     }
 
     private static void searches() {
@@ -256,6 +292,7 @@ public final class PromisesTest {
         run("22 mend", "rate 0 1 2 = 0; program = 0; act 0 0 0 0 0 = 1; act 0 3 1 0 0 = 2; act 0 4 1 4 1 = 3; act 0 10 1 0 0 = 4; mend 0 1 -9 9 = 20; told 0 2 2 = 4; told 0 2 3 = 1; set 0 2 0 1 = 0; mend 0 1 -9 9 = 9999999",
             "set 0 2 5 1 = 0; mend 0 1 0 300 = 20; mend 0 1 0 301 = -1; mend 0 2 0 9 = -1; mend 0 7 0 9 = -1; mend 0 -1 0 9 = -1; mend 1 1 0 9 = -1; mend -1 1 0 9 = -1; mend 0 1 1 0 = -1; mend 0 1 999999 1000001 = -1; mend 0 1 -1000001 -1000000 = -1",
             "mend 0 0 0 9 = -3; mend 0 0 0 0 = 9999999; told 0 2 2 = 5");
+        run("22 mend has nothing to change", "program = 0; act 0 0 0 0 0 = 1; act 0 10 0 0 1 = 2; mend 0 0 1 9 = -3; told 0 1 3 = 1; program = 1; act 1 0 0 0 0 = 1; act 1 10 0 0 0 = 2; act 1 10 0 1 0 = 3; mend 1 0 1 1 = -3; act 1 4 1 0 1 = 4; mend 1 0 1 1 = -3");
         run("22 mend by a rule", "program = 0; act 0 0 0 0 0 = 1; act 0 6 0 1 0 = 2; act 0 7 1 0 0 = 3; act 0 10 1 0 0 = 4; mend 0 1 0 9 = 12; told 0 1 2 = 1; weight 0 0 = 3; set 0 1 2 0 = 0; mend 0 3 0 9 = 10; set 0 1 3 0 = 0; mend 0 3 -9 9 = 9999999");
         run("22 mend by tax, flow and show", "rate 0 1 2 = 0; program = 0; act 0 1 0 0 4 = 1; act 0 10 0 0 0 = 2; mend 0 1 0 9 = 0; program = 1; act 1 11 5 5 0 = 1; act 1 2 0 0 4 = 2; act 1 10 0 0 0 = 3; mend 1 1 0 9 = 10; told 1 1 3 = 4",
             "program = 2; act 2 0 0 0 0 = 1; act 2 3 1 0 0 = 2; act 2 11 1 1 5 = 3; act 2 10 1 0 0 = 4; mend 2 1 0 9 = 20; mend 2 5 0 9 = -3; told 2 2 3 = 5; told 2 2 2 = 1");
@@ -300,9 +337,10 @@ public final class PromisesTest {
         run("26 image", head, "image -1 = -1; image 6 = -1; image 0 = 1; program = 1; image 1 = 2; tape 0 1 1 = 1; image 0 = 2; clear 0 = 5");
         run("27 back", head, "image 0 = 1; run 0 = 5; account 5 = 3; count 2 = 1; carried 0 0 = 1; carried 0 1 = 2; image 1 = 1; run 0 = 5; account 5 = 7; carried 0 0 = 0; count 2 = 2; back 1 = 1; account 5 = 3; carried 0 0 = 1; carried 0 1 = 2; count 2 = 1; failed = -2; slot 1 0 = 4",
             "back 0 = 0; account 5 = 0; carried 0 0 = 0; carried 0 1 = 1; count 2 = 0; back 1 = 1; account 5 = 3; back -1 = -1; back 6 = -1; back 5 = -11; tape 5 3 1 = 1; back 5 = -12; count 3 = 2");
+        run("27 back, of four programs", "program = 0; program = 1; program = 2; program = 3; image 5 = 4; back 5 = 0; carried 3 1 = 1");
         run("27 back, programs made since", head, "image 0 = 1; run 0 = 5; program = 1; act 1 0 0 0 0 = 1; act 1 3 0 0 0 = 2; act 1 8 0 0 0 = 3; run 1 = 3; carried 1 0 = 1; carried 1 1 = 2; image 1 = 2; back 0 = 0; carried 1 0 = 0; carried 1 1 = 1; back 1 = 1; carried 1 0 = 1; carried 1 1 = 2; carried 0 1 = 2",
             "begin = 0; back 1 = -3; account 5 = 0; program = 0; back 1 = -3; count 3 = 0; program = 1; back 1 = 1; account 5 = 3; carried 1 1 = 2; count 2 = 1");
-        run("28 toss", head, "toss -1 = -1; toss 6 = -1; toss 0 = -11; tape 0 2 3 = 3; toss 0 = -12; image 0 = 1; toss 0 = -15; years 0 3 = 3; toss 0 = -15; image 0 = 1; toss 0 = 3; toss 0 = 3; count 2 = 3; count 3 = 4; begin = 0; toss 0 = 3; count 3 = 0; clear 0 = 5; toss 0 = -11");
+        run("28 toss", head, "toss -1 = -1; toss 6 = -1; toss 0 = -11; tape 0 2 3 = 3; toss 0 = -12; image 0 = 1; toss 0 = -15; run 0 = 5; image 1 = 1; toss 1 = 1; back 0 = 0; years 0 3 = 3; toss 0 = -15; image 0 = 1; toss 0 = 3; toss 0 = 3; count 2 = 3; count 3 = 4; begin = 0; toss 0 = 3; count 3 = 0; clear 0 = 5; toss 0 = -11");
     }
 
     private static void counts() {
