@@ -1,40 +1,10 @@
 import java.util.ArrayList;
 import java.util.List;
 
-/**
- * For each promise, runs of calls on a new object with the answers that the document asks for, worked out by hand.
- * A run is a text of calls "name argument .. = answer", parted by semicolons; IAE and ISE are the exceptions.
- */
+/** For each promise, runs of calls on a new object with the answers that the document asks for, worked out by hand. */
 public final class PromisesTest {
-    private static int wrong = 0;
-    private static int calls = 0;
-
     private static void run(String title, String... texts) {
-        PennyJudge judge = new PennyJudge();
-        for (String text : texts) {
-            for (String call : text.split(";")) {
-                if (!call.isBlank()) {
-                    check(title, judge, call.trim());
-                }
-            }
-        }
-    }
-
-    private static void check(String title, PennyJudge judge, String call) {
-        String[] sides = call.split("=");
-        String[] words = sides[0].trim().split(" +");
-        long[] arguments = new long[words.length - 1];
-        for (int i = 0; i < arguments.length; i++) {
-            arguments[i] = Long.parseLong(words[i + 1]);
-        }
-        String due = sides[1].trim();
-        due = due.equals("IAE") ? Oracle.ARGUMENT : due.equals("ISE") ? Oracle.STATE : due;
-        String got = Caller.call(judge, words[0], arguments);
-        calls++;
-        if (!got.equals(due)) {
-            wrong++;
-            System.out.println(title + ": " + call + ", but the answer was " + got);
-        }
+        Script.run(title, texts);
     }
 
     public static void main(String[] args) {
@@ -49,8 +19,8 @@ public final class PromisesTest {
         tapes();
         images();
         counts();
-        System.out.println(calls + " calls, " + wrong + " not as due");
-        if (wrong > 0) {
+        System.out.println(Script.calls + " calls, " + Script.wrong + " not as due");
+        if (Script.wrong > 0) {
             System.exit(1);
         }
     }
