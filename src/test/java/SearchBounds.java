@@ -11,6 +11,7 @@ final class SearchBounds {
         share();
         failAndLeak();
         floats();
+        exactDoubles();
         roundingByDoubles();
         splitByDoubles();
         castsByDoubles();
@@ -23,6 +24,8 @@ final class SearchBounds {
     private static void closeAndMirror() {
         Bounds.test("LAWS for a PROGRAM and one amount a, as a BILL of one LINE a, with all ACCOUNTS and CARRIED 0 ahead: it BREAKS:",
             HALF, "NEW; SUM 0; RATE 0 0 0; CARRY 0; BOOK 0; line 7; run 0 = 4; account 0 = 3; carried 0 0 = 1; least 0 0 -1 0 9 = 2; least 0 0 -1 0 1 = HOLDS; least 0 0 -1 0 0 = HOLDS; least 0 0 -1 -9 9 = -9; line 9; least 0 0 -1 0 9 = 2; bare; least 0 0 -1 0 9 = 2; account 0 = 3; carried 0 0 = 1");
+        // An order of more lines that was tried ahead leaves nothing behind.
+        Bounds.test("LAWS for a PROGRAM and one amount a, as a BILL of one LINE a, with all ACCOUNTS and CARRIED 0 ahead: it BREAKS:", "NEW; SUM 0; BOOK 0; line 3; line 4; line 5; order 0 = HOLDS; least 0 0 -1 0 0 = HOLDS; least 0 0 -1 -12 -3 = -12; mend 0 0 0 0 = HOLDS; least 0 1 -1 -9 9 = HOLDS; least 0 2 0 -9 9 = HOLDS; least 0 6 -1 -9 9 = HOLDS");
         String close = "0 CLOSE if the RUN doesn't fail and the ACCOUNTS added aren't 0;";
         Bounds.test(close, "NEW; SUM 0; BOOK 0; CAP 0 0 5; BOOK 0 7 1; least 0 0 -1 -9 5 = HOLDS; least 0 0 -1 -9 6 = 6; least 0 0 -1 5 5 = HOLDS; least 0 0 -1 6 6 = 6; least 0 0 -1 7 9 = 7");
         for (int k = 0; k < 8; k++) {
@@ -59,6 +62,7 @@ final class SearchBounds {
         Bounds.test(quote, weights(500, 500, 1000), last.replace("#", "2"));
         Bounds.test(quote, weights(499, 499, 1000), last.replace("-#", "#").replace("#", "HOLDS"));
         Bounds.test(quote, weights(1, 1, 1, 1, 1, 1, 1, 1), last.replace("#", "2"), "least 0 3 -1 -1 1 = HOLDS; least 0 3 -1 -1 9 = 2; least 0 3 -1 -2 1 = -2; least 0 3 -1 7 9 = HOLDS; least 0 3 -1 7 10 = 10; least 0 3 -1 8 8 = HOLDS; set 0 1 0 0; least 0 3 -1 -99 99 = HOLDS; set 0 1 1 0; least 0 3 -1 -99 99 = HOLDS");
+        Bounds.test(quote, "NEW; SUM 0; SPLIT 0 0 0; NEW; SUM 0; least 0 3 -1 8 9 = HOLDS; least 1 3 -1 8 9 = HOLDS; least 1 3 -1 -9 9 = HOLDS");
         String first = last.replace("SPLIT 0 2 0", "SPLIT 0 3 0");
         Bounds.test(quote, weights(998, 501, 501), first.replace("-#", "#").replace("#", "HOLDS"));
         Bounds.test(quote, weights(1000, 500, 500), first.replace("#", "2"));
@@ -83,6 +87,23 @@ final class SearchBounds {
         String quote = "A RUN by doubles: SLOTS, RESULTS, CARRIED are doubles, LINES turned to them; RATE is (double) p divided by (double) q; sums are made in order from 0.0.";
         Bounds.test(quote, "rate 0 7 100; NEW; TAX 0 0 1; BOOK 0; least 0 6 -1 0 149 = HOLDS; least 0 6 -1 149 151 = 150; least 0 6 -1 -150 -150 = -150; least 0 6 -1 -149 149 = HOLDS; NEW; FLOW 0 0 1; BOOK 0; least 1 6 -1 0 300 = 150; NEW; SUM 0; RATE 0 0 0; ROUND 0 1 1; BOOK 0; least 2 6 -1 0 300 = 150; NEW; SUM 0; RATE 0 0 0; SHOW 1 0 1; BOOK 1; least 3 6 -1 0 300 = 150");
         Bounds.test(quote, "rate 0 10000 1; NEW; TAX 0; BOOK 0; SUM 1; BOOK 1 7 1; least 0 6 -1 999000 1000000 = HOLDS; least 0 6 -1 -1000000 -999000 = HOLDS; rate 0 9999 1000; least 0 6 -1 0 0 = HOLDS");
+    }
+
+    /** Programs whose doubles are all exact: then nothing may differ, whatever ran ahead. */
+    private static void exactDoubles() {
+        String quote = "A RUN by doubles: SLOTS, RESULTS, CARRIED are doubles, LINES turned to them; RATE is (double) p divided by (double) q; sums are made in order from 0.0.";
+        String holds = "least 0 6 -1 -20 20 = HOLDS; least 0 6 -1 999900 1000000 = HOLDS; least 0 6 -1 -1000000 -999900 = HOLDS";
+        Bounds.test(quote, "NEW; PART 0; BOOK 0; SUM 1; SPLIT 1;", holds);
+        Bounds.test(quote, "NEW; SUM 1; ADD 0 1; ADD 7 1; BOOK 0; BOOK 7 7; SUM 0; SUM 7;", holds);
+        Bounds.test(quote, "NEW; SUM 0; SPLIT 0; ADD 0 0; ADD 0 0 1; PART 2 0; BOOK 2; BOOK 0 1; SUM 0; SPLIT 0; BOOK 0 7; BOOK 0 6 1; BOOK 0 2;", holds);
+        Bounds.test(quote, HALF, "NEW; SUM 0; RATE 0 0 0; CARRY 0; BOOK 0; SUM 1; RATE 1 1 0; CARRY 1; BOOK 1 1; SUM 2; ADD 2 0 1; RATE 2 2 0; CARRY 2; BOOK 2 2;", holds);
+        for (int days = 1; days <= 30; days += days < 2 ? 1 : 14) {
+            Bounds.test(quote, "rate 0 1 1; rate 1 1 2; rate 2 0 1; NEW; SUM 0; DAYS 0 1 #; BOOK 0; SUM 1; DAYS 1 2 #; BOOK 1 1;".replace("#", "" + days), "least 0 6 -1 -9 9 = HOLDS; set 0 1 0 #; least 0 6 -1 -9 9 = HOLDS".replace("#", "" + days));
+        }
+        for (int mode = 0; mode < 6; mode++) {
+            Bounds.test(quote, "rate 0 1 4; NEW; TAX 0 0 #; BOOK 0; SUM 1; RATE 1 1 0; SHOW 2 1 #; BOOK 2 1; ROUND 1 # 2; BOOK 1 2; FLOW 3 0 #; BOOK 3 3;".replace("#", "" + mode), holds);
+        }
+        Bounds.test(quote, HALF, "NEW; SUM 0; RATE 0 0 0; CAP 0 0 3; CAP 0 1 2; RATE 0 0 1; BOOK 0; rate 1 2 1; SUM 1; CAP 1 0 5; BOOK 1 1; SUM 2; CAP 2 1 5; BOOK 2 2;", holds);
     }
 
     /** What a mode answers at an a whose exact amount is whole but whose double is a hair beside it. */
@@ -156,6 +177,8 @@ final class SearchBounds {
             Bounds.test(quote, head.replace("4096", "2048"), days.replace("#", "1"), "ADD 6 # 1;".replace("#", "" + s), "ADD 6 5 0; ADD 6 5 0; BOOK 6; least 0 6 -1 1 1 = HOLDS");
             Bounds.test(quote, head, days.replace("#", "1"), tail + "HOLDS");
             Bounds.test(quote, head, days.replace("#", "30"), tail + "HOLDS");
+            // A gain beyond every long.
+            Bounds.test(quote, head, days.replace("#", "1").replace("rate 4 1 1", "rate 4 10000 1"), tail + "HOLDS");
         }
         Bounds.test("Nothing fails.", "rate 0 1 49; rate 1 49 1; NEW; SUM 0; RATE 0 0 0; RATE 0 0 1; BOOK 0; SUM 1; BOOK 1 1; least 0 6 -1 1 1 = 1; set 0 3 7 0; NEW; SUM 0; RATE 0 0 0; RATE 0 0 1; SPLIT 0; SUM 1; BOOK 1 1; least 1 6 -1 -9 9 = HOLDS");
     }
@@ -206,6 +229,14 @@ final class SearchBounds {
         Bounds.test(quote, rules.replace("#", "0"), "mend 0 1 -9 9 = 12; set 0 1 1 0; mend 0 1 -9 9 = 12; set 0 1 2 0; mend 0 1 -9 9 = HOLDS; set 0 1 3 0; mend 0 1 -9 9 = HOLDS; told 0 1 2 = 3; told 0 1 3 = 0");
         // Only the rule that lets the first take what is left gives nothing of 1 to the first of two.
         Bounds.test(quote, "NEW; SUM 0; SPLIT 0 # 0; PART 1 0; BOOK 1;".replace("#", "0"), "mend 0 0 1 1 = 13; set 0 1 1 0; mend 0 0 1 1 = 13; set 0 1 2 0; mend 0 0 1 1 = 13; set 0 1 3 0; mend 0 0 1 1 = HOLDS; mend 0 0 2 2 = -3");
+        // A 0 for the v of an act without a mode or rule would mend each of these.
+        String[] modeless = {"SUM 0; BOOK 0 0 1; BOOK 0 1 1", "CAP 0 1 5; BOOK 0", "SUM 0; RATE 0 0 1; BOOK 0", "SUM 0; ADD 1 0 1; ADD 1 0 1; BOOK 1", "CAP 0 1 1; DAYS 0 1 1; CAP 1 1 1; ADD 0 1 1; BOOK 0"};
+        for (String acts0 : modeless) {
+            Bounds.test(quote, "rate 1 1 1; NEW;", acts0, "; mend 0 0 1 1 = -3; mend 0 0 1 9 = -3");
+        }
+        // What stood behind a program's acts ahead of begin() is gone.
+        Bounds.test(quote, "NEW; CAP 0 1 5; BOOK 0; ROUND 1 0 1; begin; NEW; CAP 0 1 5; mend 0 0 0 9 = HOLDS; BOOK 0; mend 0 0 0 9 = -3; same 0 0 = 1; run 0 = 2");
+        Bounds.test(quote, "NEW", Script.times(18, "CAP # 1 5").replaceAll("CAP \\d+", "CAP 0"), "BOOK 0; SPLIT 0; count 10 = 20; mend 0 0 0 9 = -3");
         // Two changes would be needed.
         Bounds.test(quote, HALF, "NEW; TAX 0 0 5; BOOK 0 0; TAX 0 0 5; BOOK 0 1; mend 0 1 -9 9 = -3; set 0 2 0 0; mend 0 1 -9 9 = 0; NEW; SUM 0; BOOK 0; CARRY 0; CAP 0 0 9; DAYS 0 0 1; mend 1 0 1 1 = -3; mend 1 0 0 0 = HOLDS");
     }

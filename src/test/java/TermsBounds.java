@@ -101,6 +101,7 @@ final class TermsBounds {
         Bounds.test(quote, "program = 0; program = 1; program = 2; program = 3; carried 0 0 = 0; carried 0 1 = 1; carried 3 0 = 0; carried 3 1 = 1; carried 4 0 = IAE; carried -1 0 = IAE",
             "rate 0 1 2; line 1; act 1 0 0 0 0 = 1; act 1 3 0 0 0 = 2; act 1 8 0 0 0 = 3; run 1 = 3; carried 1 0 = 1; carried 1 1 = 2; carried 0 1 = 1; carried 2 1 = 1");
         Bounds.test(quote, "NEW; CAP 0 1 9; SPLIT 0 0 0; CAP 1 1 20; SPLIT 1 0 1; PART 2 0; run 0 = 5; part 0 = 10; part 1 = 10; slot 2 0 = 10");
+        Bounds.test(quote, "weight 0 -1", Script.times(8, "weight 0 #"), "NEW; CAP 0 1 36; SPLIT 0 0 0; PART 2 7; SPLIT 0 0 1; PART 3 7; run 0 = 5; slot 2 0 = 8; slot 3 0 = 0; part 0 = 18; part 1 = 18; part 2 = 0; part 7 = 0");
         Bounds.test("At the beginning of a RUN all SLOTS are 0 and not SHOWN, there are no PARTS (all 8 are 0), the RESULTS of all LINES are 0.",
             "rate 0 1 1; weight 0 -1 = 0", Script.times(8, "weight 0 # = #"), Script.times(12, "line # = #"), "NEW; TAX 0; SPLIT 0; SHOW 0 0; SHOW 7 0; run 0 = 4; slot 0 0 = 78; slot 7 2 = 1; got 0 = 1; got 11 = 12; part 0 = 2; part 7 = 17",
             "NEW; BOOK 7; PART 1 7; PART 2; ADD 3 7; run 1 = 4; count 2 = 0; account 0 = 0; slot 0 0 = 0; slot 0 1 = 1; slot 0 2 = 0; slot 7 0 = 0; slot 7 1 = 1; slot 7 2 = 0; slot 1 0 = 0; slot 2 0 = 0; slot 3 2 = 0",
@@ -203,7 +204,7 @@ final class TermsBounds {
         Bounds.test("4, 8, 9 and 12 leave it as it is;",
             "NEW; SHOW 0; SHOW 1; SHOW 2; SHOW 3; ROUND 0 0 7; CARRY 1; CAP 2 1 5; DAYS 3 0 9; ROUND 4 0 7; CARRY 5; CAP 6 1 5; DAYS 7 0 9; run 0 = 12; slot 0 2 = 1; slot 1 2 = 1; slot 2 2 = 1; slot 2 0 = 5; slot 3 2 = 1; slot 4 2 = 0; slot 5 2 = 0; slot 6 2 = 0; slot 6 0 = 5; slot 7 2 = 0");
         Bounds.test("by 7 if the SLOT of the last SPLIT was when it was parted.",
-            "NEW; SHOW 7; PART 7; SHOW 0; SPLIT 0; PART 1 7; SUM 0; PART 2; SPLIT 0; SHOW 0; PART 3; SHOW 4; PART 4; run 0 = 12; slot 7 2 = 0; slot 1 2 = 1; slot 0 2 = 1; slot 2 2 = 1; slot 3 2 = 0; slot 4 2 = 0");
+            "NEW; SHOW 7; PART 7; SHOW 0; SPLIT 0; PART 1 7; SUM 0; PART 2; SPLIT 0; SHOW 0; PART 3; SHOW 4; PART 4; run 0 = 12; slot 7 2 = 0; slot 1 2 = 1; slot 0 2 = 1; slot 2 2 = 1; slot 3 2 = 0; slot 4 2 = 0", "NEW; SHOW 0; SPLIT 0; NEW; PART 1; run 1 = 2; run 2 = 1; slot 1 2 = 0");
         Bounds.test("A BOOK of a SHOWN SLOT is a LEAK.",
             "NEW; BOOK 0; run 0 = 1; count 2 = 0; SHOW 0; BOOK 0; run 0 = 3; count 2 = 1; BOOK 0 7 1; BOOK 1; run 0 = 5; count 2 = 3; SUM 0; BOOK 0; run 0 = 7; count 2 = 5; years 0 40 = 40; count 2 = 85; SPLIT 0; BOOK 0; run 0 = 9; count 2 = 87");
     }
