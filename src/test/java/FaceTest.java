@@ -83,12 +83,14 @@ public final class FaceTest {
         }
     }
 
-    private static void throwsAsTold() throws NoSuchMethodException {
+    private static void throwsAsTold() {
         List<Class<?>> argument = List.of(IllegalArgumentException.class);
-        due("account throws", List.of(PennyJudge.class.getMethod("account", int.class).getExceptionTypes()), argument);
-        due("rounded throws", List.of(PennyJudge.class.getMethod("rounded", long.class, int.class, int.class, int.class).getExceptionTypes()), argument);
-        due("at throws", List.of(PennyJudge.class.getMethod("at", int.class, int.class).getExceptionTypes()),
-            List.of(IllegalArgumentException.class, IllegalStateException.class));
+        List<Class<?>> both = List.of(IllegalArgumentException.class, IllegalStateException.class);
+        List<String> throwing = List.of("account", "slot", "part", "got", "carried", "drift", "rounded");
+        for (Method m : PennyJudge.class.getDeclaredMethods()) {
+            List<Class<?>> told = m.getName().equals("at") ? both : throwing.contains(m.getName()) ? argument : List.of();
+            due(m.getName() + " throws", List.of(m.getExceptionTypes()), told);
+        }
     }
 
     private static void source() throws IOException {
